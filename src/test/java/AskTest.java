@@ -42,6 +42,12 @@ public final class AskTest {
         check.same("none", 0, x.ahead(10, 1));
         check.same("the most days", 0, x.ahead(99, 0));
         check.same("the day stays", 0, x.told(3));
+        PartedFellows red = Check.with("fellow 2 0 0 0 0 0 0;glass 1 0;");
+        Check.work(red, "part 0 0;");
+        check.same("red alone", 1, red.ahead(1, 0));
+        check.same("red alone", 1, red.ahead(1, 1));
+        check.same("red alone", 1, red.told(5));
+        check.same("red is gone", 0, red.ahead(2, 1));
         check.illegal("ahead(100, 0)", x, () -> x.ahead(100, 0));
         check.illegal("ahead(-1, 0)", x, () -> x.ahead(-1, 0));
         check.illegal("ahead(0, 2)", x, () -> x.ahead(0, 2));
@@ -160,6 +166,14 @@ public final class AskTest {
         PartedFellows one = Check.with("fellow 1 0 0 0 0 0 0;glass 1 0;");
         check.same("one pair stays one", 0, one.look(0));
         check.same("one pair stays one", 1, one.look(1));
+        PartedFellows full = Check.with("fellow 40 40 40 40 40 40 40;".repeat(6) + "glass 9 0;".repeat(8) + "wall 99;");
+        Check.law(full, "98");
+        check.same("all pairs there may be", 48, full.fits(0));
+        check.same("no place parts them", 0, full.look(0));
+        check.same("all are left", 48, full.look(1));
+        Check.work(full, "part 0 0;part 1 0;part 2 0;part 3 0;part 4 0;");
+        check.same("the last place has all that there may be, by the last fellow", 98, full.look(0));
+        check.same("those who can't be parted are left", 40, full.look(1));
     }
 
     private static void swingsAndPower() {

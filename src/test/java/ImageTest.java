@@ -65,13 +65,16 @@ public final class ImageTest {
         x.undo();
         x.undo();
         Check.work(x, "part 1 0;");
-        check.same("works", 1, x.count(2));
+        Check.work(x, "swap 0 1 0;");
+        Check.work(x, "day;day;");
+        check.same("works", 3, x.count(2));
         x.restore();
         check.same("the works are there again", 2, x.count(2));
         check.same("taken", 7, x.told(8));
         check.same("the latest is undone", 1, x.undo());
         check.same("taken", 0, x.told(8));
         check.same("day", 1, x.told(3));
+        check.same("within", 91, x.told(6));
         check.same("the one ahead of it", 0, x.undo());
         check.same("day", 0, x.told(3));
         check.same("nothing was parted", 0, x.told(11));

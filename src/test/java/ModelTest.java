@@ -9,7 +9,7 @@ import java.util.TreeMap;
 
 /** Promises 1 to 42, by long runs of calls drawn by fixed seeds: each answer is compared with the slow model's. */
 public final class ModelTest {
-    private static final int RUNS = 1500;
+    private static final int RUNS = 2500;
     private static final int CALLS = 512;
 
     /** Of each argument the least and the most that is likely to be taken. */
@@ -96,8 +96,11 @@ public final class ModelTest {
     }
 
     private void run() throws Exception {
+        // nothing is promised beyond the 512th call: a text takes some 35, a sight of all some 250
+        boolean sees = random.nextBoolean();
+        int last = CALLS - (sees ? 290 : 40);
         tell("college", collegeText());
-        while (calls < CALLS) {
+        while (calls < last) {
             int kind = random.nextInt(100);
             if (kind < 2) {
                 tell("college", collegeText());
@@ -114,6 +117,13 @@ public final class ModelTest {
             } else {
                 ask();
             }
+        }
+        if (sees) {
+            sight();
+        }
+        if (calls > CALLS) {
+            System.out.println("ModelTest: a run had more than 512 calls");
+            System.exit(1);
         }
     }
 
@@ -184,6 +194,26 @@ public final class ModelTest {
         call(name, n);
         if (random.nextInt(3) == 0) {
             call("fault");
+        }
+    }
+
+    /** All that there is now. */
+    private void sight() throws Exception {
+        for (int what = 0; what <= 11; what++) {
+            call("told", what);
+        }
+        for (int fellow = 0; fellow < model.told(0); fellow++) {
+            for (int what = 0; what <= 7; what++) {
+                call("fellow", fellow, what);
+            }
+            for (int part = 0; part < 7; part++) {
+                for (int what = 0; what <= 3; what++) {
+                    call("part", fellow, part, what);
+                }
+            }
+        }
+        for (int place = 0; place < model.told(2); place += 7) {
+            call("place", place);
         }
     }
 

@@ -60,6 +60,9 @@ public final class StateTest {
         PartedFellows y = Check.with("fellow 1 1 1 1 1 1 1;");
         Check.work(y, "take 0 3 1;");
         check.same("dark", 8, y.fellow(0, 3));
+        Check.work(y, "take 0 0 1;take 0 6 1;");
+        check.same("the first and the last part are counted", 3, y.told(8));
+        check.same("the first and the last part are counted", 3, y.fellow(0, 2));
     }
 
     private static void part() {

@@ -214,6 +214,8 @@ public final class TextTest {
         lawFault("most[1,2", 1, 8);
         lawFault("most(1,2)", 1, 4);
         lawFault("days", 1, 0);
+        lawFault("dayz", 1, 0);
+        lawFault("aday", 1, 0);
         lawFault("again", 1, 0);
         lawFault("1;", 1, 1);
         lawFault("part part", 1, 5);
@@ -417,6 +419,27 @@ public final class TextTest {
         Check.feed(x, "1+2 rubbish behind");
         check.same("the first n bytes alone", 1, x.law(3));
         check.same("they are the law", 3, x.would(0, 0, 1, 0, 0, 0, 0, 0));
+        bytesBehind("1+2", 2, 'l');
+        bytesBehind("(1)", 2, 'l');
+        bytesBehind("least[1,2]", 9, 'l');
+        bytesBehind("again 1[day;];", 12, 'w');
+        bytesBehind("again 1[];", 9, 'w');
+        bytesBehind("day;", 3, 'w');
+        bytesBehind("0 1;", 3, 'b');
+        bytesBehind("0 1;", 2, 'b');
+        bytesBehind("wall 10;", 7, 'c');
+        bytesBehind("wall 10;", 5, 'c');
+        Check.feed(x, "wall 101;");
+        check.same("a number ends with the text", -9, x.college(7));
+        check.same("at the length", 7, x.fault());
+    }
+
+    /** What stands behind the first n bytes on the tape is no part of the text. */
+    private static void bytesBehind(String text, int n, char kind) {
+        PartedFellows x = new PartedFellows();
+        Check.feed(x, text);
+        int answer = kind == 'l' ? x.law(n) : kind == 'w' ? x.work(n) : kind == 'b' ? x.book(n) : x.college(n);
+        fault(n + " bytes of " + text, x, answer, 1, n);
     }
 
     private static void undoes() {
