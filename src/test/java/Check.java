@@ -22,6 +22,14 @@ final class Check {
         }
     }
 
+    void alike(String call, String want, String got) {
+        made++;
+        if (!got.equals(want)) {
+            wrong++;
+            System.out.println(name + ": " + call + ": seen is\n  " + got + "\ndue is\n  " + want);
+        }
+    }
+
     /** The call must throw, and be counted as refused by that reason alone. */
     void illegal(String call, PartedFellows x, Call c) {
         refused(call, x, c, 1);
