@@ -9,6 +9,7 @@ public final class AskEdgeTest {
 
     public static void main(String[] args) {
         turn();
+        would();
         ahead();
         aheadOfMuch();
         spread();
@@ -60,6 +61,30 @@ public final class AskEdgeTest {
         check.same("nothing is", 0, x.turn(0, 6, 0));
         Check.law(x, "turns*10+taken");
         check.same("turns by now", 10, x.turn(0, 0, 0));
+    }
+
+    // "TURN by the LAW for such part (0 to 6), much (0 to 400), bend (1 to 9), all (0 to 2,800), taken (0 to 400), turns (0
+    // to 999), day (0 to 400), fellow (0 to 5)."
+    private static void would() {
+        String[] names = {"part", "much", "bend", "all", "taken", "turns", "day", "fellow"};
+        int[] least = {0, 0, 1, 0, 0, 0, 0, 0};
+        int[] most = {6, 400, 9, 2800, 400, 999, 400, 5};
+        PartedFellows x = Check.with("wall 99;");
+        for (int i = 0; i < 8; i++) {
+            int[] a = least.clone();
+            Check.law(x, names[i] + "+20");
+            check.same("the least " + names[i], least[i] + 20, x.would(a[0], a[1], a[2], a[3], a[4], a[5], a[6], a[7]));
+            a[i] = most[i];
+            Check.law(x, names[i] + "-" + most[i] / 4 + "*4+20");
+            check.same("the most " + names[i], most[i] % 4 + 20, x.would(a[0], a[1], a[2], a[3], a[4], a[5], a[6], a[7]));
+        }
+        Check.law(x, "fellow+day+turns");
+        check.same("there need be no such fellow", 5 + 7 + 9, x.would(0, 0, 1, 0, 0, 9, 7, 5));
+        Check.law(x, "much-all");
+        check.same("0 at least", 0, x.would(0, 400, 1, 401, 0, 0, 0, 0));
+        check.same("0", 0, x.would(0, 400, 1, 400, 0, 0, 0, 0));
+        check.same("W less 1", 98, x.would(0, 400, 1, 302, 0, 0, 0, 0));
+        check.same("W less 1 at most", 98, x.would(0, 400, 1, 301, 0, 0, 0, 0));
     }
 
     // "In n DAYS (0 to 99), nothing else being done: 0 how much lies on the wall, 1 FELLOWS of whom anything does"
