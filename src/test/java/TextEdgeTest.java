@@ -19,6 +19,7 @@ public final class TextEdgeTest {
         lawWraps();
         lawDivides();
         lawEnds();
+        latestLaw();
         openAtOneTime();
         workLength();
         workNumbers();
@@ -425,6 +426,22 @@ public final class TextEdgeTest {
         bad("law", "again", 1, 0);
         bad("law", "turn", 1, 0);
         bad("law", "wall", 1, 0);
+    }
+
+    /** Of a longer law nothing is left in a shorter one, be it read or the one without a text. */
+    private static void latestLaw() {
+        String[] laws = {"1+2*3-4*5%6", "least[1,2]*most[3,(4)]", "4+5", "7", "1+2*(3+4*5)", "8-2", "part+1+2*3*bend", "9", "3*3"};
+        int[] due = {5, 4, 9, 7, 47, 6, 6 * 9 + 6 + 1, 9, 9};
+        PartedFellows x = Check.with("wall 99;");
+        for (int i = 0; i < laws.length; i++) {
+            for (int j = 0; j < laws.length; j++) {
+                Check.law(x, laws[i]);
+                Check.law(x, laws[j]);
+                check.same(laws[j] + " behind " + laws[i], due[j], x.would(6, 0, 9, 0, 0, 0, 0, 0));
+            }
+            Check.college(x, "wall 99;");
+            check.same("no law behind " + laws[i], 63, x.would(6, 0, 9, 0, 0, 0, 0, 0));
+        }
     }
 
     // "a 7th of ( least most again that is open at one time"; "of one the least"
