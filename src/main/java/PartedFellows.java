@@ -1486,7 +1486,7 @@ public final class PartedFellows {
         }
 
         /** Does the steps of one row; a work that was read is done once, its counts begin with the reading. */
-        void perform(Hall hall, int from, int to, int open) {
+        private void perform(Hall hall, int from, int to, int open) {
             if (open > DEEPEST) {
                 return;
             }

@@ -6,7 +6,9 @@ import java.nio.file.Files;
 import java.nio.file.Path;
 import java.util.Arrays;
 import java.util.List;
+import java.util.Map;
 import java.util.Set;
+import java.util.TreeMap;
 import java.util.TreeSet;
 import java.util.regex.Matcher;
 import java.util.regex.Pattern;
@@ -14,6 +16,7 @@ import java.util.regex.Pattern;
 /** The public face as the document has it, and rules of LANGUAGE.md that can be seen from outside. */
 public final class FaceTest {
     private static final Check check = new Check("FaceTest");
+    private static int recursive;
     private static final String FACE = "feed/5 college/1 law/1 work/1 book/1 fault/0 undo/0 told/1 fellow/2 part/3 "
             + "glass/2 place/1 turn/3 would/8 ahead/2 spread/1 bow/1 through/3 serves/2 fits/1 look/1 swings/3 "
             + "power/4 green/3 lookers/3 light/3 broadest/1 strongest/2 joins/2 blurs/1 lit/0 lacks/2 mates/1 "
@@ -100,6 +103,36 @@ public final class FaceTest {
         }
         yes("signs of 1 to 127 alone", text.chars().allMatch(s -> s > 0 && s < 128));
         methodLengths(code);
+        for (String one : code.split("\n    private static final class ")) {
+            recursion(one);
+        }
+        check.same("methods that are recursive", 6, recursive);
+    }
+
+    /** Rule 8: methods of a class that come back to themselves, by themselves or by others of it, are private. */
+    private static void recursion(String classCode) {
+        Map<String, String> heads = new TreeMap<>();
+        Map<String, Set<String>> calls = new TreeMap<>();
+        Matcher method = Pattern.compile("(?ms)^( {4}| {8})((?:[\\w\\[\\]]+ )+)(\\w+)\\([^;{]*\\{\n(.*?)^\\1\\}$")
+                .matcher(classCode);
+        while (method.find()) {
+            heads.put(method.group(3), method.group(2));
+            Set<String> called = calls.computeIfAbsent(method.group(3), k -> new TreeSet<>());
+            Matcher call = Pattern.compile("(?<![.\\w])(\\w+)\\(").matcher(method.group(4));
+            while (call.find()) {
+                called.add(call.group(1));
+            }
+        }
+        for (String name : heads.keySet()) {
+            Set<String> reached = new TreeSet<>(calls.get(name));
+            for (int i = 0; i < heads.size(); i++) {
+                for (String other : List.copyOf(reached)) {
+                    reached.addAll(calls.getOrDefault(other, Set.of()));
+                }
+            }
+            yes(name + " is private, if it is recursive", !reached.contains(name) || heads.get(name).contains("private"));
+            recursive += reached.contains(name) ? 1 : 0;
+        }
     }
 
     private static void methodLengths(String code) {
